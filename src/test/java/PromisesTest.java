@@ -453,6 +453,7 @@ public final class PromisesTest {
     text("x", row(0, 1));
     text("-x", row(0, -1));
     text("10x", row(0, 10));
+    text("x+1", row(1, 1));
     text("x3-7x+6", row(6, -7, 0, 1));
     text("-x2+x-12", row(-12, 1, -1));
     text("x8+1", row(1, 0, 0, 0, 0, 0, 0, 0, 1));
@@ -532,6 +533,9 @@ public final class PromisesTest {
     plainParts("x2-441, too far", 0, row(-441, 0, 1));
     plainParts("x2+1", 0, row(1, 0, 1));
     plainParts("(x2+1)(x-2)", 1, row(-2, 1, -2, 1));
+    PolyKitchen far = kitchen(row(0, 0, 0, 0, 0, 0, 0, 0, 1));
+    far.shift(0, 20);
+    due("28: (x+20)8, all by the smallest number", far.plainParts(0), 8);
     PolyKitchen kitchen = kitchen(row(3, -1, -3, 1));
     due("28: (x-3)(x-1)(x+1)", kitchen.plainParts(0), 3);
     kitchen.scale(0, 1 << 28);
@@ -565,6 +569,7 @@ public final class PromisesTest {
 
   private static void meanDegree() {
     due("30: none", new PolyKitchen().meanDegree(), 0.0);
+    due("30: one", kitchen(row(0, 0, 2)).meanDegree(), 2.0);
     due("30: 3, 0 and -1", kitchen(row(6, -7, 0, 1), row(1), row()).meanDegree(), 2.0 / 3);
     due("30: without parts", kitchen(row(), row()).meanDegree(), -1.0);
     due("30: -1 and 0", kitchen(row(), row(4)).meanDegree(), -0.5);
@@ -573,16 +578,16 @@ public final class PromisesTest {
 
   private static void digest() {
     due("31: none", new PolyKitchen().digest(), 2179L * 31);
-    PolyKitchen kitchen = kitchen(row(6, -7, 0, 1), row());
+    PolyKitchen kitchen = kitchen(row(25, -10, 1), row());
     long[] numbers = {
-      2, 3, 1, 1, 2, 12, 3, -3, 1, 7, 3, 0, 6, -7, 0, 1, 0, 0, 0, 0, 0,
+      2, 2, 1, 1, 2, 4, 1, 5, 5, 9, 2, 5, 25, -10, 1, 0, 0, 0, 0, 0, 0,
       -1, 0, 0, 0, 0, 41, -20, 1, 1, 0, 0, 0, 0, 0, 0, 0, 0, 0, 0, 0
     };
     long want = 2179;
     for (long number : numbers) {
       want = want * 31 + number;
     }
-    due("31: x3-7x+6 and nothing", kitchen.digest(), want);
+    due("31: x2-10x+25 and nothing", kitchen.digest(), want);
     due("31: the same again", kitchen.digest(), want);
     kitchen.set(1, 8, 1);
     due("31: another one", kitchen.digest() != want, true);
