@@ -1,24 +1,8 @@
 /** For each promise of the document its ordinary answers, its edges and its wrong inputs. */
-public final class PromisesTest {
-  private static final Class<IndexOutOfBoundsException> INDEX = IndexOutOfBoundsException.class;
-  private static final Class<IllegalArgumentException> ARGUMENT = IllegalArgumentException.class;
-  private static final Class<IllegalStateException> STATE = IllegalStateException.class;
-  private static final int POWERS = 9;
+public final class PromisesTest extends Cases {
   private static final int[] NO_RECIPES = {-1, 2, 16, Integer.MIN_VALUE, Integer.MAX_VALUE};
 
-  private static final Checks CHECKS = new Checks();
-
   private PromisesTest() {}
-
-  /** A call on one recipe, by its number. */
-  private interface OneRecipe {
-    Object of(PolyKitchen kitchen, int recipe);
-  }
-
-  /** A call on two recipes, by their numbers. */
-  private interface TwoRecipes {
-    Object of(PolyKitchen kitchen, int one, int other);
-  }
 
   public static void main(String[] args) {
     newObject();
@@ -52,7 +36,7 @@ public final class PromisesTest {
     meanDegree();
     digest();
     unknownRecipesAreRefused();
-    CHECKS.end("PromisesTest");
+    end("PromisesTest");
   }
 
   // ---- promise 1
@@ -487,16 +471,7 @@ public final class PromisesTest {
     PolyKitchen kitchen = kitchen(row);
     due("25: length of " + want, kitchen.textLength(0), want.length());
     due("26: text", textOf(kitchen, 0), want);
-  }
-
-  private static String textOf(PolyKitchen kitchen, int recipe) {
-    StringBuilder text = new StringBuilder();
-    int length = kitchen.textLength(recipe);
-    for (int place = 0; place < length; place++) {
-      text.append((char) kitchen.textAt(recipe, place));
-    }
-    refused("26: behind the text", INDEX, kitchen, () -> kitchen.textAt(recipe, length));
-    return text.toString();
+    refused("26: behind " + want, INDEX, kitchen, () -> kitchen.textAt(0, want.length()));
   }
 
   // ---- promises 27 to 31
@@ -639,15 +614,6 @@ public final class PromisesTest {
 
   // ---- helpers
 
-  private static void due(String what, Object got, Object want) {
-    CHECKS.due(what, got, want);
-  }
-
-  private static void refused(
-      String what, Class<? extends RuntimeException> want, PolyKitchen kitchen, Checks.Call call) {
-    CHECKS.refused(what, want, kitchen, call);
-  }
-
   /** A call that makes one recipe is refused with 16, and only behind the recipes' own test. */
   private static void fullIsRefused(String what, TwoRecipes call) {
     PolyKitchen kitchen = full(row(1, 1), row(2));
@@ -655,36 +621,5 @@ public final class PromisesTest {
     refused(what + ", no recipe ahead of 16", INDEX, kitchen, () -> call.of(kitchen, 16, 0));
     kitchen.drop(15);
     due(what + " with 15", call.of(kitchen, 0, 1), 15);
-  }
-
-  /** The amounts of a recipe, the power 0 first; those that are not named are 0. */
-  private static void amounts(String what, PolyKitchen kitchen, int recipe, int... want) {
-    for (int power = 0; power < POWERS; power++) {
-      int amount = power < want.length ? want[power] : 0;
-      due(what + ", power " + power, kitchen.amountOf(recipe, power), amount);
-    }
-  }
-
-  private static int[] row(int... amounts) {
-    return amounts;
-  }
-
-  private static PolyKitchen kitchen(int[]... rows) {
-    PolyKitchen kitchen = new PolyKitchen();
-    for (int[] row : rows) {
-      int recipe = kitchen.addRecipe();
-      for (int power = 0; power < row.length; power++) {
-        kitchen.set(recipe, power, row[power]);
-      }
-    }
-    return kitchen;
-  }
-
-  private static PolyKitchen full(int[]... rows) {
-    PolyKitchen kitchen = kitchen(rows);
-    while (kitchen.recipes() < 16) {
-      kitchen.addRecipe();
-    }
-    return kitchen;
   }
 }
