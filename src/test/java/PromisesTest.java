@@ -1,7 +1,8 @@
-/** For each promise of the document its ordinary answers, its edges and its wrong inputs. */
+/**
+ * For each promise of the document its ordinary answers, its edges and its wrong inputs; the numbers
+ * of recipes that there are not are in RefusalsTest.
+ */
 public final class PromisesTest extends Cases {
-  private static final int[] NO_RECIPES = {-1, 2, 16, Integer.MIN_VALUE, Integer.MAX_VALUE};
-
   private PromisesTest() {}
 
   public static void main(String[] args) {
@@ -35,7 +36,6 @@ public final class PromisesTest extends Cases {
     bestShift();
     meanDegree();
     digest();
-    unknownRecipesAreRefused();
     end("PromisesTest");
   }
 
@@ -566,50 +566,6 @@ public final class PromisesTest extends Cases {
     due("31: the same again", kitchen.digest(), want);
     kitchen.set(1, 8, 1);
     due("31: another one", kitchen.digest() != want, true);
-  }
-
-  // ---- a recipe that there is not, for all promises
-
-  private static void unknownRecipesAreRefused() {
-    unknown("3: set", (kitchen, recipe) -> kitchen.set(recipe, 0, 1));
-    unknown("4: drop", (kitchen, recipe) -> kitchen.drop(recipe));
-    unknown("5: scale", (kitchen, recipe) -> kitchen.scale(recipe, 2));
-    unknown("6: shift", (kitchen, recipe) -> kitchen.shift(recipe, 1));
-    unknown("7: sum", (kitchen, one, other) -> kitchen.sum(one, other));
-    unknown("8: difference", (kitchen, one, other) -> kitchen.difference(one, other));
-    unknown("9: product", (kitchen, one, other) -> kitchen.product(one, other));
-    unknown("10: chain", (kitchen, one, other) -> kitchen.chain(one, other));
-    unknown("11: derive", (kitchen, recipe) -> kitchen.derive(recipe));
-    unknown("12: divide", (kitchen, one, other) -> kitchen.divide(one, other));
-    unknown("14: amountOf", (kitchen, recipe) -> kitchen.amountOf(recipe, 0));
-    unknown("15: degreeOf", (kitchen, recipe) -> kitchen.degreeOf(recipe));
-    unknown("16: isPlain", (kitchen, recipe) -> kitchen.isPlain(recipe));
-    unknown("17: content", (kitchen, recipe) -> kitchen.content(recipe));
-    unknown("18: signChanges", (kitchen, recipe) -> kitchen.signChanges(recipe));
-    unknown("19: hunger", (kitchen, recipe) -> kitchen.hunger(recipe, 1));
-    unknown("20: idleGuests", (kitchen, recipe) -> kitchen.idleGuests(recipe));
-    unknown("21: firstIdle", (kitchen, recipe) -> kitchen.firstIdle(recipe));
-    unknown("22: agreeAt", (kitchen, one, other) -> kitchen.agreeAt(one, other));
-    unknown("23: cheapest", (kitchen, recipe) -> kitchen.cheapest(recipe));
-    unknown("24: hungerUpTo", (kitchen, recipe) -> kitchen.hungerUpTo(recipe, 1));
-    unknown("25: textLength", (kitchen, recipe) -> kitchen.textLength(recipe));
-    unknown("26: textAt", (kitchen, recipe) -> kitchen.textAt(recipe, 0));
-    unknown("27: isPartOf", (kitchen, one, other) -> kitchen.isPartOf(one, other));
-    unknown("28: plainParts", (kitchen, recipe) -> kitchen.plainParts(recipe));
-    unknown("29: bestShift", (kitchen, recipe) -> kitchen.bestShift(recipe));
-  }
-
-  private static void unknown(String what, OneRecipe call) {
-    PolyKitchen kitchen = kitchen(row(1, 1), row(2, 2), row(3, 3));
-    kitchen.drop(2);
-    for (int recipe : NO_RECIPES) {
-      refused(what + " of " + recipe, INDEX, kitchen, () -> call.of(kitchen, recipe));
-    }
-  }
-
-  private static void unknown(String what, TwoRecipes call) {
-    unknown(what + ", first", (kitchen, recipe) -> call.of(kitchen, recipe, 0));
-    unknown(what + ", second", (kitchen, recipe) -> call.of(kitchen, 1, recipe));
   }
 
   // ---- helpers
