@@ -1,7 +1,9 @@
 import java.lang.reflect.InvocationTargetException;
 import java.lang.reflect.Method;
+import java.util.Arrays;
 import java.util.HashMap;
 import java.util.Map;
+import java.util.stream.Collectors;
 
 /** The calls of the document's face by their names, made on the program or on the model alike. */
 final class Calls {
@@ -33,6 +35,12 @@ final class Calls {
   static String letters(String call) {
     int space = call.indexOf(' ');
     return space < 0 ? "" : call.substring(space + 1);
+  }
+
+  /** A method as the document's face has it, but for its arguments' names. */
+  static String described(Method method) {
+    return method.getReturnType() + " " + method.getName() + "("
+        + names(method.getParameterTypes()) + ") " + names(method.getExceptionTypes());
   }
 
   /** The answer as a text, or the exception's name behind 'throws.'. */
@@ -77,6 +85,10 @@ final class Calls {
   }
 
   // ---- helpers
+
+  private static String names(Class<?>[] types) {
+    return Arrays.stream(types).map(Class::getSimpleName).collect(Collectors.joining(", "));
+  }
 
   /** An amount that set refuses is made of smaller ones: times 1000, and the next three digits. */
   private static void appendDigits(Object target, int recipe, int[] row, int digit) {

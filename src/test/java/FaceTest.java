@@ -9,7 +9,6 @@ import java.util.Arrays;
 import java.util.Set;
 import java.util.TreeSet;
 import java.util.regex.Pattern;
-import java.util.stream.Collectors;
 
 /** The document's public face, and those rules of LANGUAGE.md that can be seen from outside. */
 public final class FaceTest {
@@ -77,7 +76,7 @@ public final class FaceTest {
     Set<String> found = new TreeSet<>();
     for (Method method : PolyKitchen.class.getDeclaredMethods()) {
       if (Modifier.isPublic(method.getModifiers())) {
-        found.add(described(method));
+        found.add(Calls.described(method));
       }
     }
     CHECKS.due("the face", found, new TreeSet<>(Arrays.asList(FACE)));
@@ -111,14 +110,5 @@ public final class FaceTest {
 
   private static String withoutComments(String text) {
     return text.replaceAll("(?s)/\\*.*?\\*/", "").replaceAll("//[^\n]*", "");
-  }
-
-  private static String described(Method method) {
-    return method.getReturnType() + " " + method.getName() + "("
-        + names(method.getParameterTypes()) + ") " + names(method.getExceptionTypes());
-  }
-
-  private static String names(Class<?>[] types) {
-    return Arrays.stream(types).map(Class::getSimpleName).collect(Collectors.joining(", "));
   }
 }
